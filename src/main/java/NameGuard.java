@@ -7,8 +7,7 @@ public final class NameGuard {
     public static final int FULL = -3;
 
     private static final int TAPE_ROOM = 200;
-    private static final int FEED_INTS = 5;
-    private static final int FEED_BYTES = 4 * FEED_INTS;
+    private static final int FEED_BYTES = 20;
 
     private static final int LOWEST_SIGN = 33;
     private static final int HIGHEST_SIGN = 126;
@@ -583,8 +582,8 @@ public final class NameGuard {
         /** By a sign: the latest piece that begins with it; by a piece: the one before it with the same sign. */
         private final int[] latest;
         private final int[] before;
-        /** Rows of codeCount costs each. */
-        private final int[] least;
+        /** Rows of codeCount costs each; it grows with need, for most objects never need all of it. */
+        private int[] least;
 
         PieceTable() {
             ones = new int[MOST_CONFUSIONS];
@@ -597,7 +596,7 @@ public final class NameGuard {
             codeCount = 0;
             latest = new int[SIGN_ROOM];
             before = new int[MOST_PIECES];
-            least = new int[MOST_PIECES * MOST_PIECES];
+            least = new int[0];
         }
 
         int tell(int p, int q, int cost) {
@@ -703,6 +702,9 @@ public final class NameGuard {
 
         private void writeSteps() {
             int n = codeCount;
+            if (least.length < n * n) {
+                least = new int[Math.max(n * n, Math.min(2 * least.length, MOST_PIECES * MOST_PIECES))];
+            }
             Arrays.fill(least, 0, n * n, FAR);
             for (int i = 0; i < n; i++) {
                 least[i * n + i] = 0;
@@ -1066,23 +1068,18 @@ public final class NameGuard {
 
     /** The pairs that likes() found: all are counted, the first ones kept. */
     private static final class PairList {
-        private final int[] lesser;
-        private final int[] greater;
-        private final int[] costs;
+        /** Both entries and the cost in one number each: none of the three is above 200. */
+        private final int[] packed;
         private int total;
 
         PairList() {
-            lesser = new int[MOST_TOLD_PAIRS];
-            greater = new int[MOST_TOLD_PAIRS];
-            costs = new int[MOST_TOLD_PAIRS];
+            packed = new int[MOST_TOLD_PAIRS];
             total = 0;
         }
 
-        void add(int e, int f, int cost) {
+        void add(int lesser, int greater, int cost) {
             if (total < MOST_TOLD_PAIRS) {
-                lesser[total] = e;
-                greater[total] = f;
-                costs[total] = cost;
+                packed[total] = lesser << 16 | greater << 8 | cost;
             }
             total++;
         }
@@ -1092,9 +1089,9 @@ public final class NameGuard {
                 return NONE;
             }
             switch (what) {
-                case 0: return lesser[i];
-                case 1: return greater[i];
-                case 2: return costs[i];
+                case 0: return packed[i] >> 16;
+                case 1: return packed[i] >> 8 & 255;
+                case 2: return packed[i] & 255;
                 default: return NONE;
             }
         }

@@ -298,6 +298,8 @@ public final class RegistersTest {
         Check.due("near", x.near(0, 3), 1);
         Check.due("below 0", x.nearest(-1, 0), NONE);
         Check.due("what 2", x.nearest(0, 2), NONE);
+        Check.due("wrong", x.near(4, 3), RANGE);
+        Check.due("the list stays", x.nearest(0, 0), 0);
         Check.due("what -1", x.nearest(0, -1), NONE);
         Check.confuse(x, "a", "b", 5);
         x.strike(0);
@@ -458,6 +460,8 @@ public final class RegistersTest {
         Check.confuse(x, "a", "b", 1);
         x.strike(2);
         Check.due("as they were", x.like(1, 2), 4);
+        Check.due("wrong", x.likes(4), RANGE);
+        Check.due("the list stays", x.like(1, 2), 4);
         Check.due("likes", x.likes(0), 1);
         Check.due("how far now", x.like(0, 2), 1);
         Check.due("no more", x.like(1, 0), NONE);

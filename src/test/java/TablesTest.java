@@ -213,5 +213,6 @@ public final class TablesTest {
         Check.due("there already when full", x.allow(254), 8);
         Check.due("wrong when full", x.allow(3), RANGE);
         Check.due("count", x.count(1), 8);
+        Check.due("a set of none is a set", new NameGuard().allow(0), 1);
     }
 }
