@@ -149,10 +149,12 @@ public final class NameGuard {
     }
 
     public int allow(int set) {
-        if ((set & ~SET_BITS) != 0) {
-            return RANGE;
-        }
-        return sets.add(set);
+        return isSet(set) ? sets.add(set) : RANGE;
+    }
+
+    /** A number without any script's bit names no scripts that could stand together. */
+    private static boolean isSet(int number) {
+        return number != 0 && (number & ~SET_BITS) == 0;
     }
 
     private static boolean isSign(int number) {

@@ -377,7 +377,7 @@ public final class RandomRunsTest {
         }
 
         int allow(int set) {
-            if (set < 0 || set > 254 || set % 2 == 1) {
+            if (set < 2 || set > 254 || set % 2 == 1) {
                 return RANGE;
             }
             if (!sets.contains(set) && sets.size() == 8) {

@@ -199,6 +199,8 @@ public final class TablesTest {
 
     private static void promise8() {
         NameGuard x = new NameGuard();
+        Check.due("no script", x.allow(0), RANGE);
+        Check.due("no script is not kept", x.count(1), 0);
         Check.due("bit 0", x.allow(1), RANGE);
         Check.due("bit 8", x.allow(256), RANGE);
         Check.due("bit 0 among others", x.allow(7), RANGE);
@@ -212,7 +214,15 @@ public final class TablesTest {
         Check.due("ninth", x.allow(10), FULL);
         Check.due("there already when full", x.allow(254), 8);
         Check.due("wrong when full", x.allow(3), RANGE);
+        Check.due("no script when full", x.allow(0), RANGE);
         Check.due("count", x.count(1), 8);
-        Check.due("a set of none is a set", new NameGuard().allow(0), 1);
+        everySetAlone();
+    }
+
+    private static void everySetAlone() {
+        for (int set = -2; set <= 258; set++) {
+            boolean bits1To7 = set >= 2 && set <= 254 && set % 2 == 0;
+            Check.due("allow(" + set + ") alone", new NameGuard().allow(set), bits1To7 ? 1 : RANGE);
+        }
     }
 }
