@@ -6,15 +6,21 @@ final class Check {
 
     private static int checks = 0;
     private static int wrong = 0;
+    private static String under = "";
 
     private Check() {
+    }
+
+    /** What the checks from here on are of. */
+    static void under(String sentence) {
+        under = sentence + ": ";
     }
 
     static void due(String call, long got, long want) {
         checks++;
         if (got != want) {
             wrong++;
-            System.out.println(call + " answered " + got + ", due is " + want);
+            System.out.println(under + call + " answered " + got + ", due is " + want);
         }
     }
 
@@ -67,7 +73,7 @@ final class Check {
         checks++;
         if (!got.equals(want)) {
             wrong++;
-            System.out.println(call + " gave '" + got + "', due is '" + want + "'");
+            System.out.println(under + call + " gave '" + got + "', due is '" + want + "'");
         }
     }
 

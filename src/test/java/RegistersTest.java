@@ -24,7 +24,6 @@ public final class RegistersTest {
         promise21();
         promise22();
         promise23();
-        manyPairs();
         promise24();
         Check.close("RegistersTest");
     }
@@ -465,38 +464,6 @@ public final class RegistersTest {
         Check.due("likes", x.likes(0), 1);
         Check.due("how far now", x.like(0, 2), 1);
         Check.due("no more", x.like(1, 0), NONE);
-    }
-
-    private static void manyPairs() {
-        NameGuard x = new NameGuard();
-        int entries = 60;
-        for (int i = 0; i < entries; i++) {
-            String text = "x" + (char) ('A' + i % 26) + (char) ('a' + i / 26);
-            Check.due("entry", Check.enter(x, text, 0, i % 32), i);
-        }
-        for (char sign = 'B'; sign <= 'Z'; sign++) {
-            x.confuse('A', sign, 0);
-        }
-        x.confuse('a', 'b', 0);
-        x.confuse('a', 'c', 1);
-        int all = 0;
-        int[][] want = new int[2000][3];
-        for (int i = 0; i < entries; i++) {
-            for (int j = i + 1; j < entries; j++) {
-                if (i % 32 != j % 32) {
-                    want[all++] = new int[] {i, j, (i / 26 == 2) == (j / 26 == 2) ? 0 : 1};
-                }
-            }
-        }
-        Check.due("all are counted", x.likes(0), all);
-        for (int i = 0; i < 1000; i++) {
-            for (int what = 0; what < 3; what++) {
-                Check.due("like " + i, x.like(i, what), want[i][what]);
-            }
-        }
-        for (int i = 1000; i < all + 2; i++) {
-            Check.due("not told", x.like(i, 0), NONE);
-        }
     }
 
     private static void promise24() {
