@@ -18,6 +18,8 @@ public final class BoundsOfEntriesTest {
         askOfNoneSeen();
         boundsAtFirst();
         boundsAtTheirEnds();
+        boundsOfLongerPieces();
+        nearestOfSeveral();
         strictOnes();
         heldOfWhomever();
         heldSignBySign();
@@ -178,6 +180,65 @@ public final class BoundsOfEntriesTest {
                 int want = cost <= b[0] ? 2 : cost <= b[1] ? 1 : 0;
                 Check.due("as far as " + cost + " with " + b[0] + ", " + b[1], asked(x, cost), want);
             }
+        }
+    }
+
+    /** Whole pieces of two signs, at the bounds and one beyond: ahead of what costs, behind it, and on either side. */
+    private static void boundsOfLongerPieces() {
+        Doc.termsI("A PIECE is one SIGN or two");
+        String[][] pairs = {{"m", "rn"}, {"rn", "m"}, {"xm", "xrn"}, {"mx", "rnx"}, {"cd", "rn"}, {"xcdx", "xrnx"}};
+        for (String[] pair : pairs) {
+            for (int cost = 0; cost <= 10; cost++) {
+                NameGuard x = new NameGuard();
+                Check.enter(x, pair[0], 0, 0);
+                Check.confuse(x, "m", "rn", cost);
+                Check.confuse(x, "cd", "rn", cost);
+                Check.tell(x, pair[1]);
+                longerPiece(x, pair[0] + " and " + pair[1] + " at " + cost, cost);
+                NameGuard y = new NameGuard();
+                Check.enter(y, pair[0] + "o", 0, 0);
+                Check.confuse(y, "m", "rn", 0);
+                Check.confuse(y, "cd", "rn", 0);
+                Check.confuse(y, "o", "0", cost);
+                Check.tell(y, pair[1] + "0");
+                longerPiece(y, pair[0] + "o and " + pair[1] + "0 at " + cost, cost);
+            }
+        }
+    }
+
+    private static void longerPiece(NameGuard x, String what, int cost) {
+        Check.due(what, x.ask(0, 1), cost <= 4 ? 2 : cost <= 8 ? 1 : 0);
+        Check.due("far, " + what, x.far(0), cost);
+        Check.due("near, " + what, x.near(0, cost), 1);
+        Check.due("not near, " + what, cost == 0 ? 0 : x.near(0, cost - 1), 0);
+        x.rule(0, 0, 200, false);
+        Check.due("let in, " + what, x.enter(0, 1), cost == 0 ? -12 : 1);
+        if (cost > 0) {
+            x.rule(0, cost, cost, false);
+            Check.due("alike, " + what, x.likes(0), 1);
+            x.rule(0, cost - 1, cost, false);
+            Check.due("not alike, " + what, x.likes(0), 0);
+        }
+    }
+
+    /** The order in which entries came has no say: one that refuses ahead of, between or behind those that warn. */
+    private static void nearestOfSeveral() {
+        Doc.termsII("2 REFUSED: an ENTRY of another OWNER is not farther than the first bound");
+        for (String order : new String[] {"Ewm", "Emw", "wEm", "mEw", "wmE", "mwE"}) {
+            NameGuard x = new NameGuard();
+            for (int i = 0; i < 3; i++) {
+                Check.enter(x, "" + order.charAt(i), 0, i);
+            }
+            x.confuse('3', 'E', 4);
+            x.confuse('3', 'w', 5);
+            x.confuse('3', 'm', 9);
+            Check.tell(x, "3");
+            Check.due("refused by one of " + order, x.ask(0, 9), 2);
+            Check.due("warned by one of " + order, x.ask(0, order.indexOf('E')), 1);
+            x.strike(order.indexOf('E'));
+            Check.due("warned without it, " + order, x.ask(0, 9), 1);
+            x.strike(order.indexOf('w'));
+            Check.due("free without both, " + order, x.ask(0, 9), 0);
         }
     }
 

@@ -30,6 +30,7 @@ public final class BoundsOfListsTest {
         waysOutside();
         waysOfNothing();
         waysOfForty();
+        waysOfFortyToTwenty();
         shorterPieceFirst();
         wayOutside();
         wayOfTheLatestThatToldOne();
@@ -355,6 +356,35 @@ public final class BoundsOfListsTest {
         Check.due("the eighth is the last of those", x.way(7, 1), 'a');
         Check.due("the ninth is one for two", x.way(8, 1), Check.piece("aa"));
         Check.due("all of them cost", x.far(0), 16 * 20 + 8 * 19);
+    }
+
+    private static void waysOfFortyToTwenty() {
+        Doc.promise(20, "The way from THE NAME to an ENTRY that stands: how many PIECES");
+        NameGuard x = new NameGuard();
+        x.seen('-', 1);
+        Check.enter(x, "b".repeat(20), 0, 0);
+        Check.enter(x, "b".repeat(19), 0, 0);
+        Check.enter(x, "c".repeat(24) + "-".repeat(16), 0, 0);
+        Check.tell(x, "a".repeat(24) + "-".repeat(16));
+        x.seen('-', 0);
+        x.confuse('b', Check.piece("aa"), 20);
+        x.confuse('b', Check.piece("--"), 19);
+        x.confuse(Check.piece("aa"), Check.piece("cc"), 1);
+        Check.due("forty to twenty", x.ways(0), 20);
+        Check.due("far", x.far(0), 12 * 20 + 8 * 19);
+        for (int i = 0; i < 20; i++) {
+            Check.due("the name's, " + i, x.way(i, 0), Check.piece(i < 12 ? "aa" : "--"));
+            Check.due("the other one, " + i, x.way(i, 1), 'b');
+            Check.due("cost, " + i, x.way(i, 2), i < 12 ? 20 : 19);
+        }
+        Check.due("forty to nineteen", x.ways(1), NONE);
+        Check.due("the one before is told still", x.way(19, 0), Check.piece("--"));
+        Check.due("forty to forty by twos and ones", x.ways(2), 12 + 16);
+        Check.due("the last two", x.way(11, 0), Check.piece("aa"));
+        Check.due("the first one", x.way(12, 0), '-');
+        Check.due("the last one", x.way(27, 1), '-');
+        Check.due("none behind", x.way(28, 0), NONE);
+        Check.due("far by twos", x.far(2), 12);
     }
 
     private static void shorterPieceFirst() {
